@@ -430,6 +430,10 @@ public final class HomeReader {
             return at(start, token) + 1;
         }
 
+        int nameCount() {
+            return names.count;
+        }
+
         /** The last token is END, or BAD. */
         void cut(int bytes) {
             size = bytes;
@@ -666,7 +670,7 @@ public final class HomeReader {
         void begin() {
             at = 0;
             opened = 0;
-            kind = tokens.kind[0];
+            kind = kindAhead(0);
         }
 
         int kindAhead(int many) {
@@ -879,7 +883,7 @@ public final class HomeReader {
         private int unary() {
             int kind = cursor.kind;
             if (kind != PLUS && kind != MINUS && (kind < NOT || kind > DOWN)) {
-                return behind(primary());
+                return behind(kind == NAME ? named(cursor.step()) : primary());
             }
             int token = cursor.open(kind);
             int operand = unary();
@@ -917,9 +921,6 @@ public final class HomeReader {
                 int node = tree.add(NUMBER, token);
                 put(tree.value, node, at(tokens.value, token));
                 return node;
-            }
-            if (cursor.kind == NAME) {
-                return named(cursor.step());
             }
             int token = cursor.open(LEFT_PAREN);
             int node = expression(true);
@@ -1273,9 +1274,11 @@ public final class HomeReader {
         int wrong;
         int wrongToken;
 
-        void begin(boolean system) {
-            Arrays.fill(thingOf, 0);
-            Arrays.fill(functionOf, 0);
+        /** The text has names of a number below that. */
+        void begin(boolean system, int names) {
+            int used = Math.min(names, NAME_ROOM);
+            Arrays.fill(thingOf, 0, used, 0);
+            Arrays.fill(functionOf, 0, used, 0);
             things = 1;
             depth = 0;
             functions = 0;
@@ -1691,7 +1694,7 @@ public final class HomeReader {
         }
 
         void judge(boolean system) {
-            known.begin(system);
+            known.begin(system, tokens.nameCount());
             textWords = 0;
             loops = 0;
             switches = 0;
@@ -2022,10 +2025,10 @@ public final class HomeReader {
             }
         }
 
-        private void word(String letters) {
+        private void word(String word) {
             blank();
-            for (int i = 0; i < letters.length(); i++) {
-                add(letters.charAt(i));
+            for (int i = 0; i < word.length(); i++) {
+                add(word.charAt(i));
             }
         }
 
