@@ -236,6 +236,11 @@ public final class MeaningTest {
         inMain(7, "int a[`1 % (E - 0)];");
         inMain(7, "int a[`1 ? 1 / 0 : 1];");
         inMain(7, "int a[`1 / 0 ? 1 : 1];");
+        inMain(7, "int a[`-(1 / 0)];");
+        inMain(7, "int a[`!(1 % 0)];");
+        inMain(7, "int a[`1 / 0 + 1];");
+        inMain(7, "int a[`1 + 1 / 0];");
+        inMain(7, "int a[`+(1 / 0)];");
         inMain(7, "int a[`1 && 1 / 0];");
         inMain(7, "int a[`0 || 1 / 0];");
         inMain(7, "int a[`0 && n];");

@@ -32,6 +32,7 @@ public final class NoneTest {
     private void names() {
         check.right("int abcdefghijklmnopqrstuvwx, _, _9, Int, in, intx;" + Check.MAIN);
         check.none("int `abcdefghijklmnopqrstuvwxy;" + Check.MAIN);
+        check.right("int aAzZ_09, ABCDEFGHIJKLMNOPQRSTUVWX, YZ, yz0123456789;" + Check.MAIN);
         check.none("int `9a;");
         check.none("int a`@;");
         for (String word : ("int char void enum if else while do for switch case default break"
@@ -116,6 +117,8 @@ public final class NoneTest {
         check.none("int a[b `= 1];");
         check.none("int a, b`(int c) {}");
         check.none("int a(int`) {}");
+        check.none("int a(`b c) {}");
+        check.none("int a(int b, `c d) {}");
         check.none("int a(void`, int b) {}");
         check.none("int a(void `b) {}");
         check.none("int a(int b, `void) {}");
@@ -145,6 +148,7 @@ public final class NoneTest {
         inMain("`default: ;");
         inMain("switch (n) `;");
         inMain("switch (n) { `n; case 1: ; }");
+        inMain("switch (n) { `; case 1: ; }");
         inMain("switch (n) { case `: ; }");
         inMain("switch (n) { case 1`; }");
         inMain("switch (n) { case n `= 1: ; }");
