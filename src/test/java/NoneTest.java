@@ -129,6 +129,10 @@ public final class NoneTest {
         check.none("int a(int b) {`");
         check.none("`return 1;");
         check.none("int a(int b) {} `5 (");
+        check.none("int a(int b) {} `5 x(int c) {}");
+        check.none("`x y(int c) {}");
+        check.none("int a(int b) {} int `5 (");
+        check.none("int a(int b) {} int x, y `z;");
     }
 
     private void statements() {
