@@ -27,9 +27,11 @@ final class Check {
         lay(reader, text, 0);
     }
 
+    /** For plain forms so short that an object's 512 calls are enough. */
     static String plainOf(HomeReader reader) {
         StringBuilder plain = new StringBuilder();
-        for (int i = 0; i < reader.length(); i++) {
+        int length = reader.length();
+        for (int i = 0; i < length; i++) {
             plain.append((char) reader.letter(i));
         }
         return plain.toString();
@@ -85,13 +87,33 @@ final class Check {
     void plain(String text, String wanted) {
         HomeReader reader = tapeWith(text);
         due("read of " + text, reader.read(true), 0);
-        due("plain form of " + text, plainOf(reader), wanted);
+        if (wanted.length() < 400) {
+            due("plain form of " + text, plainOf(reader), wanted);
+        }
+        due("length of " + text, reader.length(), wanted.length());
+        due("mark of " + text, reader.mark(), wanted.hashCode());
     }
 
     /** The text in the main that is there has that plain form. */
     void plainIn(String statements, String wanted) {
         String frame = "int q [ 3 ] ; int f ( int x , char y ) { } int g ( void ) { } int main ( int a ) { ";
         plain(frame.replace(" ", "  ") + statements + "}", frame + wanted + " }");
+    }
+
+    /** All that a reader tells, as one text: what a call that changes nothing leaves as it is. */
+    static String toldBy(HomeReader reader) {
+        StringBuilder told = new StringBuilder();
+        int functions = reader.functions();
+        int length = reader.length();
+        told.append(reader.place()).append(' ').append(functions).append(' ');
+        for (int i = 0; i < 4 * functions; i++) {
+            told.append(reader.function(i / 4, i % 4)).append(' ');
+        }
+        told.append(reader.words()).append(' ').append(length).append(' ').append(reader.mark());
+        for (int i = 0; i < length; i += Math.max(1, length / 10)) {
+            told.append(' ').append(reader.letter(i));
+        }
+        return told.toString();
     }
 
     void throwsOutside(String what, Runnable call) {
