@@ -21,6 +21,7 @@ public final class CallEdgesTest {
         test.fullTapeIsRead();
         test.endAtItsBounds();
         test.endTakesOff();
+        test.endWithinAToken();
         test.readEmptiesTheTape();
         test.placeAndSystem();
         test.functionsAtTheirBounds();
@@ -153,6 +154,30 @@ public final class CallEdgesTest {
         reader.end(19);
         Check.lay(reader, " // behind what counts", 19);
         check.due("read of what counts", reader.read(false), 0);
+    }
+
+    /** Of a token, what is taken off is none of it; a ` stands where the tape ends. */
+    private void endWithinAToken() {
+        String[] ends = {"int main(int n){}/`/", "int main(int n){}//`\n@", "int main(int n){}/*`*/", "int main(int n){}/* *`/",
+            "int a = 0`x1;", "int a = 0x`1;", "int a = 0x1`g;", "int a = '`a';", "int a = 'a`';", "int a = '\\`n';",
+            "char a[9] = \"`a\";", "char a[9] = \"a`\";", "char a[9] = \"a\\`n\";", "int a`b;", "int a = 1`2345678901;",
+            "int a = 429496729`6;", "in`t a;", "int main(int n) { n +`+; }", "int main(int n) { n `= 1; }", "int a = 1 /`* */;"};
+        for (String end : ends) {
+            int at = end.indexOf('`');
+            HomeReader cut = Check.tapeWith(end.replace("`", ""));
+            cut.end(at);
+            HomeReader fresh = Check.tapeWith(end.substring(0, at));
+            check.due("read of " + end, cut.read(false), fresh.read(false));
+            check.due("what is told of " + end, Check.toldBy(cut), Check.toldBy(fresh));
+        }
+        HomeReader reader = Check.tapeWith("int a = 0x1;");
+        reader.end(9);
+        check.due("read of a cut number", reader.read(false), HomeReader.NONE);
+        check.due("place behind a cut number", reader.place(), 10);
+        reader = Check.tapeWith("int main(int n){}//");
+        reader.end(18);
+        check.due("read of a cut comment", reader.read(false), HomeReader.NONE);
+        check.due("place of a cut comment", reader.place(), 18);
     }
 
     private void readEmptiesTheTape() {

@@ -411,9 +411,9 @@ public final class MeaningEdgesTest {
                 check.wrong(8, type + " " + text + Check.MAIN);
                 inMain(8, type + " " + text);
             }
-            String most = "1" + ", 1".repeat(4095);
+            String most = "1" + ",1".repeat(4095);
             check.right(type + " a[4096] = { " + most + " };" + Check.MAIN);
-            check.wrong(8, type + " a[4096] = `{ " + most + ", 1 };" + Check.MAIN);
+            check.wrong(8, type + " a[4096] = `{ " + most + ",1 };" + Check.MAIN);
         }
         check.right("char a[2] = { 256, -1 };" + Check.MAIN);
     }

@@ -65,6 +65,13 @@ public final class TokenEdgesTest {
         check.none("int main(int n){} /**/`/* ");
         check.none("int main(int n){}/**/`*/");
         check.none("int main(int n){`/*}");
+        // Nor is it the mark / with another behind it, where that could stand.
+        check.none("int main(int n) { n `/* n; }");
+        check.none("int main(int n) { n = n `/*");
+        check.none("int main(int n) { n = n `/*/ n; }");
+        check.none("int a = 1 `/* 1;");
+        check.plain("int main(int n) { n /* */ / n; }", "int main ( int n ) { ( n / n ) ; }");
+        check.none("int main(int n) { n / `* n; }");
         // One that has no end can't stand even where the text before it is wrong already.
         check.none("int a; int a; `/*");
     }
