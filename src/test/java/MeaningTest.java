@@ -395,6 +395,10 @@ public final class MeaningTest {
         inMain(2, "(`zz)++;");
         inMain(2, "(`put) = 1;");
         inMain(2, "len((`zz));");
+        inMain(2, "len((`zz(1)));");
+        inMain(2, "get(n, (`n(1)));");
+        inMain(3, "len(`(more(1)));");
+        inMain(3, "len(`(more()));");
         inMain(2, "(`zz[1]) = 1;");
         inMain(2, "(`zz(1)) + 1;");
         inMain(2, "t((`zz), (zz), 1);");
