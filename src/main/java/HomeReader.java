@@ -29,7 +29,8 @@ public final class HomeReader {
     private static final int NAME_ROOM = TAPE / 2 + 64;
     private static final int FUNCTION_ROOM = TAPE / 8 + 32;
     private static final int PARAMETER_ROOM = TAPE / 4 + 64;
-    // A byte of a text makes 7.5 of its plain form at most (C, in { C, C, .. } with a long k).
+    // Two bytes of a text make 15 of its plain form (C, in { C, C, .. } with a long k); only the names
+    // of an enum with one letter or two make more, and there are too few of them to come to 8 for each.
     private static final int PLAIN_ROOM = 8 * TAPE;
     // What is OPEN keeps a tree flatter than this; see Expressions.
     private static final int DEEPEST = 80;

@@ -24,6 +24,7 @@ public final class CallEdgesTest {
         test.endWithinAToken();
         test.readEmptiesTheTape();
         test.placeAndSystem();
+        test.placeStays();
         test.functionsAtTheirBounds();
         test.functionAtItsBounds();
         test.wordsAtTheirBounds();
@@ -212,6 +213,39 @@ public final class CallEdgesTest {
         Check.lay(reader, "int load(int n) { } int main(int n) { load(1); }");
         check.due("read of its own load with system", reader.read(true), 1);
         check.due("place of its own load with system", reader.place(), 5);
+    }
+
+    /** Until the next read all other calls, refused or not, leave what read told of. */
+    private void placeStays() {
+        String[] marked = {"int main(int n) { `zz; }", "int main(int n) { `@ }", "`", "int a[`0];", RIGHT};
+        for (String text : marked) {
+            int place = text.indexOf('`') + 1;
+            HomeReader reader = Check.tapeWith(text.replace("`", ""));
+            reader.read(false);
+            String told = Check.toldBy(reader);
+            check.due("place of " + text, reader.place(), place);
+            check.due("place of " + text + " once more", reader.place(), place);
+            stays(told, reader, "endTooMuch", endThrows(reader, 1), true);
+            stays(told, reader, "feed", feedThrows(reader, 0x40404040), false);
+            stays(told, reader, "end", endThrows(reader, 3), false);
+            stays(told, reader, "end of less than nothing", endThrows(reader, -1), true);
+            outside(reader, -1, 0);
+            stays(told, reader, "function", true, true);
+            check.throwsOutside("letter(-1)", () -> reader.letter(-1));
+            stays(told, reader, "letter", true, true);
+            stays(told, reader, "again", reader.again(), place == 0);
+            stays(told, reader, "again once more", reader.again(), place == 0);
+            holds(reader, place == 0 ? reader.length() : 3);
+        }
+        HomeReader reader = Check.tapeWith("int main(int n) { " + ";".repeat(3000) + "}");
+        reader.read(false);
+        String told = Check.toldBy(reader);
+        stays(told, reader, "again of too many", reader.again(), false);
+    }
+
+    private void stays(String told, HomeReader reader, String call, boolean answered, boolean wanted) {
+        check.due(call, answered, wanted);
+        check.due("what is told behind " + call, Check.toldBy(reader), told);
     }
 
     private void functionsAtTheirBounds() {

@@ -19,6 +19,7 @@ public final class FormEdgesTest {
         test.wordsOfTheText();
         test.ksAreOneNumber();
         test.ksAtTheirBounds();
+        test.ksOfAllOperators();
         test.noKs();
         test.numbersInTens();
         test.brackets();
@@ -253,6 +254,59 @@ public final class FormEdgesTest {
         items("enum { A = -2, B, C, D };", "enum { A = - 2 , B = - 1 , C = 0 , D = 1 } ;");
         items("enum { A, B }; enum { C, D };", "enum { A = 0 , B = 1 } ; enum { C = 0 , D = 1 } ;");
         items("enum { A, B = 5, C, D = A, E };", "enum { A = 0 , B = 5 , C = 6 , D = 0 , E = 1 } ;");
+    }
+
+    /** Each operator between two over numbers at the bounds of an int, each written as it can be. */
+    private void ksOfAllOperators() {
+        int[] numbers = {0, 1, -1, 2, 3, -3, 7, -7, 31, 32, 33, 65536, Integer.MAX_VALUE, Integer.MIN_VALUE, Integer.MIN_VALUE + 1};
+        for (String operator : BETWEEN) {
+            StringBuilder text = new StringBuilder();
+            StringBuilder wanted = new StringBuilder();
+            int many = 0;
+            for (int left : numbers) {
+                for (int right : numbers) {
+                    boolean divides = operator.equals("/") || operator.equals("%");
+                    if (!divides || right != 0) {
+                        text.append("int a").append(many).append("=").append(left).append(operator).append("(")
+                            .append(right & 0xFFFFFFFFL).append(");");
+                        wanted.append("int a").append(many).append(" = ").append(inTens(made(operator, left, right))).append(" ; ");
+                        many++;
+                    }
+                }
+            }
+            HomeReader reader = Check.tapeWith(text + Check.MAIN);
+            wanted.append("int main ( int n ) { }");
+            check.due("read of all with " + operator, reader.read(false), 0);
+            check.due("length of all with " + operator, reader.length(), wanted.length());
+            check.due("mark of all with " + operator, reader.mark(), wanted.toString().hashCode());
+        }
+    }
+
+    private static String inTens(int number) {
+        return number < 0 ? "- " + -(long) number : Integer.toString(number);
+    }
+
+    private static int made(String operator, int left, int right) {
+        switch (operator) {
+            case "||": return left != 0 || right != 0 ? 1 : 0;
+            case "&&": return left != 0 && right != 0 ? 1 : 0;
+            case "|": return left | right;
+            case "^": return left ^ right;
+            case "&": return left & right;
+            case "==": return left == right ? 1 : 0;
+            case "!=": return left != right ? 1 : 0;
+            case "<": return left < right ? 1 : 0;
+            case ">": return left > right ? 1 : 0;
+            case "<=": return left <= right ? 1 : 0;
+            case ">=": return left >= right ? 1 : 0;
+            case "<<": return left << right;
+            case ">>": return left >> right;
+            case "+": return left + right;
+            case "-": return left - right;
+            case "*": return left * right;
+            case "/": return left / right;
+            default: return left % right;
+        }
     }
 
     /** What is behind = in a function, or an argument of others, is no k. */

@@ -16,6 +16,7 @@ public final class MeaningEdgesTest {
         test.builtInFunctions();
         test.manyArguments();
         test.whereNumbersAreWanted();
+        test.whereAnIntOrACharIsWanted();
         test.whereArraysAreWanted();
         test.whereVoidCanStand();
         test.whatCanBeAssignedTo();
@@ -242,6 +243,22 @@ public final class MeaningEdgesTest {
         check.wrong(5, "enum { A = `put(1) };" + Check.MAIN);
     }
 
+    /** Of functions and arguments, an int and a char are numbers both. */
+    private void whereAnIntOrACharIsWanted() {
+        String functions = "char x(char a) { return a; } int y(int a) { return a; } char r[2]; int s[2]; void v() { } ";
+        for (String name : new String[] {"x", "y"}) {
+            String start = functions + "int main(int n) { char c; int i; ";
+            for (String number : new String[] {"1", "c", "i", "r[1]", "s[1]", "x(1)", "y(1)", "n = 1"}) {
+                check.right(start + "i = c = " + name + "(" + number + ") + 1; r[" + name + "(" + number + ")]; }");
+            }
+            check.wrong(3, start + name + "(`r); }");
+            check.wrong(3, start + name + "(`s); }");
+            check.wrong(5, start + name + "(`v()); }");
+            check.wrong(6, start + "`" + name + "(1) = 1; }");
+            check.wrong(3, start + "`" + name + "[1]; }");
+        }
+    }
+
     private void whereArraysAreWanted() {
         stands("len(r); len(s); len((r)); len(((s))); t(r, s, 1); get(1, r);");
         for (String none : new String[] {"n", "1", "E", "r[1]", "v()", "n + 1", "n ? r : r", "- n", "n = 1", "w(1, 2)"}) {
@@ -256,6 +273,10 @@ public final class MeaningEdgesTest {
         inMain(3, "t(`s, s, 1);");
         inMain(3, "t(r, `r, 1);");
         inMain(3, "t(`(s), s, 1);");
+        // n [ e ] is a number whatever n is, and so is what an operator makes.
+        for (String none : new String[] {"(n[1])", "(E[1])", "(v[1])", "(zz[1])", "+ zz(1)", "- zz(1)", "+ zz", "(1 + zz(1))"}) {
+            inMain(3, "len(`" + none + ");");
+        }
         check.right("int f(int a[], char b[]) { len(a); len(b); f(a, b); get(1, a); a[1] = b[1]; }" + Check.MAIN);
         check.wrong(3, "int f(int a[], char b[]) { f(`b, b); }" + Check.MAIN);
         check.wrong(3, "int f(int a[], char b[]) { f(a, `a); }" + Check.MAIN);
@@ -540,6 +561,8 @@ public final class MeaningEdgesTest {
         check.due("read of " + head, reader.read(false), 0);
         check.due("frame of " + head, reader.function(0, 2), 8192);
         check.wrong(13, head + " int more; }" + Check.MAIN + "`");
+        check.wrong(13, "int g() { } " + head + " int more; } int h() { } " + Check.MAIN + "`");
+        check.wrong(13, Check.MAIN + head + " int more; }`");
         check.wrong(13, head + " char more; }" + Check.MAIN + " `");
     }
 

@@ -303,6 +303,9 @@ public final class OpenEdgesTest {
         depth(2, "(x + x)");
         depth(3, "g(- 1, 1)");
         depth(3, "g(1, - 1)");
+        depth(3, "g(1, 1, - 1)");
+        depth(3, "g(1, - 1, 1)");
+        depth(3, "g(1, 1, 1, - 1)");
         depth(3, "(- x ? x : x)");
         depth(3, "(x ? - x : x)");
         depth(3, "(x ? x : - x)");

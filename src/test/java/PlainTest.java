@@ -13,6 +13,7 @@ public final class PlainTest {
         test.letters();
         test.mark();
         test.fullTape();
+        test.fullTapeWithShortNames();
         test.check.close();
     }
 
@@ -190,6 +191,40 @@ public final class PlainTest {
         check.due("length of a long one", reader.length(), wanted.length());
         check.due("mark of a long one", reader.mark(), wanted.toString().hashCode());
         check.due("again of a long one", reader.again(), false);
+    }
+
+    /** Short names of enum make still more of each byte, as long as there are some. */
+    private void fullTapeWithShortNames() {
+        String letters = "_abcdefghijklmnopqrstuvwxyzABCDEFGHIJKLMNOPQRSTUVWXYZ";
+        StringBuilder text = new StringBuilder("enum{C=1<<31");
+        StringBuilder wanted = new StringBuilder("enum { C = - 2147483648");
+        int value = Integer.MIN_VALUE;
+        for (int i = 0; i < 53 * 64; i++) {
+            String behind = i < 53 ? "" : (letters + "0123456789").substring(i / 53 - 1, i / 53);
+            String name = letters.charAt(i % 53) + behind;
+            if (!name.equals("C") && !name.equals("if") && !name.equals("do")) {
+                value++;
+                text.append(",").append(name);
+                wanted.append(" , ").append(name).append(" = - ").append(-value);
+            }
+        }
+        text.append("};char ");
+        wanted.append(" } ; char ");
+        for (int i = 0; i < 3; i++) {
+            String name = (i > 0 ? "," : "") + "a_" + i;
+            int many = i < 2 ? 4095 : 3085;
+            text.append(name).append("[4096]={C").append(",C".repeat(many)).append("}");
+            wanted.append(name.replace(",", " , ")).append(" [ 4096 ] = { - 2147483648")
+                .append(" , - 2147483648".repeat(many)).append(" }");
+        }
+        text.append(";int main(int n){}");
+        wanted.append(" ; int main ( int n ) { }");
+        check.due("that the tape is all but full", text.length() > 32700 && text.length() <= 32760, true);
+        check.due("that more than 7 come of each byte", wanted.length() > 7 * 32768, true);
+        HomeReader reader = Check.tapeWith(text.toString());
+        check.due("read with short names", reader.read(false), 0);
+        check.due("length with short names", reader.length(), wanted.length());
+        check.due("mark with short names", reader.mark(), wanted.toString().hashCode());
     }
 
     private void items(String items, String wanted) {

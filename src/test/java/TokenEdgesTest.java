@@ -11,7 +11,9 @@ public final class TokenEdgesTest {
         test.between();
         test.names();
         test.keywords();
+        test.noOtherKeywords();
         test.figures();
+        test.noSuffixes();
         test.greatNumbers();
         test.hexFigures();
         test.hexWheneverXComes();
@@ -45,6 +47,8 @@ public final class TokenEdgesTest {
         check.right("int main(int n){}//@\n");
         check.none("int main(int n){}//@\n`@");
         check.right("int main(int n){}//\r@\n");
+        check.none("int main(int n){}// \\\n`@");
+        check.none("int main(int n){}//\\\n`@");
         check.right("int main(int n){}//\u000b@");
         check.right("//\nint main(int n){}//");
         check.right("int main(int n){}// /*\n");
@@ -121,8 +125,21 @@ public final class TokenEdgesTest {
         }
     }
 
+    /** What other languages like C keep for themselves are names like others here. */
+    private void noOtherKeywords() {
+        for (String word : ("auto bool const double enumerate extern false float goto inline long null NULL register restrict"
+            + " short signed sizeof static string struct switched true typedef union unsigned volatile include define").split(" ")) {
+            check.plain("int " + word + "; int _" + word + "(int " + word + ") { return " + word + "; }" + Check.MAIN,
+                "int " + word + " ; int _" + word + " ( int " + word + " ) { return " + word + " ; } int main ( int n ) { }");
+            check.none(word.equals("enumerate") ? "`enumerate { a };" : "`" + word + " int a;");
+        }
+    }
+
     private void figures() {
         number("0", "0");
+        number("010", "10");
+        number("08", "8");
+        number("0000000010", "10");
         number("9", "9");
         number("0000000000", "0");
         number("0000000009", "9");
@@ -133,6 +150,21 @@ public final class TokenEdgesTest {
         check.none("int a = `" + "0".repeat(300) + ";");
         check.none("int a = `" + "9".repeat(300) + ";");
         check.none("int a = `42949672950;");
+    }
+
+    /** A number ends with its figures; there are no fractions, no powers, no kinds of numbers. */
+    private void noSuffixes() {
+        for (String number : new String[] {"1", "0", "12", "0x1", "0xf", "'a'"}) {
+            for (String suffix : new String[] {"u", "U", "l", "L", "UL", "_", "x1", "g", "'", ".0", ".", "\"\"", "1"}) {
+                boolean longer = suffix.equals("1") && !number.endsWith("'") || suffix.equals("x1") && number.equals("0");
+                if (!longer) {
+                    check.none("int a = " + number + "`" + suffix + ";");
+                }
+            }
+        }
+        check.none("int a = 1`e5;");
+        check.none("int a = `.5;");
+        check.none("int a = 0`b1;");
     }
 
     private void greatNumbers() {
